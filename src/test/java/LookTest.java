@@ -2,6 +2,7 @@
 public final class LookTest {
     public static void main(String[] args) {
         levels();
+        levelsRound();
         levelsOfLevels();
         dotRefuses();
         modes();
@@ -33,6 +34,13 @@ public final class LookTest {
         Check.sameDot("22: level 2", studio.dot(0, 2, 0, 0), 0xBA2C2C1D);
         // C = 29: cover 31 / 4, colours as they are.
         Check.sameDot("22: level 3 of a single one", studio.dot(0, 3, 0, 0), 0xBA2C2C07);
+    }
+
+    private static void levelsRound() {
+        TileStudio studio = Make.studio(2, 1);
+        Make.putRow(studio, 0, 0, 0x0A0A0C01, 0x0B0A0B01);
+        // C = 2: cover 4 / 4, red (21 + 1) / 2, green (20 + 1) / 2, blue (23 + 1) / 2.
+        Check.sameDot("22: halves are rounded up", studio.dot(0, 1, 0, 0), 0x0B0A0C01);
     }
 
     private static void levelsOfLevels() {

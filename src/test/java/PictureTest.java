@@ -22,6 +22,7 @@ public final class PictureTest {
         modeRefuses();
         count();
         countTiles();
+        countTilesAtTheirCorners();
         Check.finish();
     }
 
@@ -310,5 +311,24 @@ public final class PictureTest {
         Check.same("25: those that are not seen, too", studio.count(3), 9);
         studio.fill(0, 0);
         Check.same("25: emptied", studio.count(3), 6);
+    }
+
+    private static void countTilesAtTheirCorners() {
+        int[][] corners = {{0, 0}, {7, 0}, {8, 0}, {15, 7}, {16, 8}, {0, 15}, {23, 16}, {0, 23}, {23, 23}};
+        TileStudio alone = Make.studio(24, 24);
+        for (int[] corner : corners) {
+            alone.fill(0, 0);
+            Make.put(alone, 0, corner[0], corner[1], 1);
+            Check.same("25: a dot alone at " + corner[0] + ", " + corner[1], alone.count(3), 1);
+        }
+        TileStudio together = Make.studio(24, 24);
+        int full = 0;
+        for (int y = 4; y < 24; y += 8) {
+            for (int x = 4; x < 24; x += 8) {
+                Make.put(together, 0, x, y, 1);
+                full++;
+                Check.same("25: tiles up to " + x + ", " + y, together.count(3), full);
+            }
+        }
     }
 }
