@@ -254,7 +254,8 @@ public final class ToolEdgeTest {
     // 11: "is blended with the brush's dot, once, NORMAL with opacity 255"
     private static void strokeOnce() {
         TileStudio studio = Make.studio(3, 1);
-        studio.mode(0, 5, 1, false);
+        // The layer's own mode (multiplied, all would stay black) and opacity are not the brush's.
+        studio.mode(0, 1, 1, false);
         studio.fill(0, 0x000000FF);
         studio.brush(0xFFFFFF80, 7);
         studio.stroke(0, Make.at(0, 0), Make.at(2, 0));
