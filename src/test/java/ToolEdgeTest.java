@@ -27,6 +27,7 @@ public final class ToolEdgeTest {
         gradientEnds();
         gradientOfOne();
         gradientRounds();
+        strokeFromEndToEnd();
         strokeOfOnePlace();
         strokeHalvesRoundDown();
         strokeReach();
@@ -35,6 +36,7 @@ public final class ToolEdgeTest {
         strokeLimits();
         floodOfUnselected();
         floodOverSelectedAlone();
+        floodLongWay();
         floodTolerances();
         floodNoPlace();
         copyOfNoneAndAll();
@@ -208,6 +210,14 @@ public final class ToolEdgeTest {
         return studio;
     }
 
+    // 11: "at steps k = 0 .. n": both ends are painted, and nothing beyond them.
+    private static void strokeFromEndToEnd() {
+        checkPainted("11: to the right", stroked(5, 1, 0, Make.at(1, 0), Make.at(3, 0)), ".###.");
+        checkPainted("11: to the left", stroked(5, 1, 0, Make.at(3, 0), Make.at(1, 0)), ".###.");
+        checkPainted("11: down", stroked(1, 5, 0, Make.at(0, 1), Make.at(0, 3)), ".", "#", "#", "#", ".");
+        checkPainted("11: up", stroked(1, 5, 0, Make.at(0, 3), Make.at(0, 1)), ".", "#", "#", "#", ".");
+    }
+
     // 11: "the one place if n is 0"
     private static void strokeOfOnePlace() {
         int corner = Make.at(2, 1);
@@ -335,6 +345,17 @@ public final class ToolEdgeTest {
         rows.select(1, 0, 1, Make.size(1, 1));
         Check.same("12: not from a row's end to the next one", rows.flood(0, 23, 0, RED, 255), 1);
         Check.same("12: nor back", rows.flood(0, 0, 1, RED, 255), 1);
+    }
+
+    // 12: "reached from x, y by steps", however many it takes: rows of 24, joined at their ends by turns.
+    private static void floodLongWay() {
+        TileStudio studio = Make.studio(24, 24);
+        for (int y = 1; y < 24; y += 2) {
+            studio.select(2, y % 4 == 1 ? 0 : 1, y, Make.size(23, 1));
+        }
+        Check.same("12: from the beginning", studio.flood(0, 0, 0, RED, 0), 12 * 24 + 12);
+        Check.same("12: from the end", studio.flood(0, 0, 23, BLUE, 0), 12 * 24 + 12);
+        Check.sameDot("12: back to the beginning", studio.dot(0, 0, 0, 0), BLUE);
     }
 
     // 12: "each byte of whose dot differs from that at x, y by at most tolerance", "tolerance is not 0 .. 255"
