@@ -44,6 +44,21 @@ final class Look {
         return text.append("brush ").append(at(studio)).toString();
     }
 
+    /** The selected places as 1, the others as 0, row by row. Steps that were taken back are lost by it. */
+    static String selection(TileStudio studio) {
+        StringBuilder text = new StringBuilder();
+        int width = studio.count(5) / 10000;
+        int height = studio.count(5) / 100 % 100;
+        for (int y = 0; y < height; y++) {
+            for (int x = 0; x < width; x++) {
+                text.append(studio.select(3, x, y, Make.size(1, 1)));
+                studio.undo();
+            }
+            text.append(' ');
+        }
+        return text.toString();
+    }
+
     private static String opened(TileStudio studio) {
         try {
             studio.open();

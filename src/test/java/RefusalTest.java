@@ -39,11 +39,15 @@ public final class RefusalTest {
 
     private static void checkAll(String state, Supplier<TileStudio> made, List<Refused> calls) {
         String due = Look.throughAll(made.get());
+        String dueSelection = Look.selection(made.get());
         for (Refused refused : calls) {
             TileStudio studio = made.get();
             String name = state + ": " + refused.name;
             Check.refuses(name, refused.due, () -> refused.call.accept(studio));
             Check.sameText(name + " changes nothing, and so what is there", Look.throughAll(studio), due);
+            TileStudio twin = made.get();
+            Check.refuses(name, refused.due, () -> refused.call.accept(twin));
+            Check.sameText(name + " leaves the selection, which", Look.selection(twin), dueSelection);
         }
     }
 
